@@ -519,23 +519,20 @@ public final class TreeTables {
             tape.begin();
             shape.clear();
             boolean more = true;
-            // Each part takes a byte at least.
+            // Each part takes a byte at least: a LEAF, a GROUP up to its [ , or from its ] on.
             for (int part = 0; part <= TAPE_MOST && more; part++) {
-                more = readPart();
+                int here = tape.next();
+                if (here == END) {
+                    more = readEnd();
+                } else {
+                    more = here == ']' ? readClose() : readField();
+                }
             }
             shape.measure();
             return tape.flaw == 0;
         }
 
-        /** Reads a LEAF, a GROUP up to its [ , or from its ] on; false when there is no more to read. */
-        private boolean readPart() {
-            int here = tape.next();
-            if (here == END) {
-                return readEnd();
-            }
-            return here == ']' ? readClose() : readField();
-        }
-
+        /** False, as all that reads a part answers when there is no more to read. */
         private boolean readEnd() {
             if (open != NONE) {
                 return tape.failHere(UNFIT);
@@ -660,22 +657,19 @@ public final class TreeTables {
         boolean readAll() {
             tape.begin();
             boolean more = true;
-            // Each part takes a byte at least.
+            // Each part takes a byte at least: an ENTRY, a GROUP's up to its [ , or from its ] on.
             for (int part = 0; part <= TAPE_MOST && more; part++) {
-                more = readPart();
+                int here = tape.next();
+                if (here == END) {
+                    more = readEnd();
+                } else {
+                    more = here == ']' ? readClose() : readEntry();
+                }
             }
             return tape.flaw == 0;
         }
 
-        /** Reads an ENTRY, a GROUP's up to its [ , or from its ] on; false when there is no more to read. */
-        private boolean readPart() {
-            int here = tape.next();
-            if (here == END) {
-                return readEnd();
-            }
-            return here == ']' ? readClose() : readEntry();
-        }
-
+        /** False, as all that reads a part answers when there is no more to read. */
         private boolean readEnd() {
             if (open != NONE) {
                 return tape.failHere(UNFIT);
@@ -698,18 +692,8 @@ public final class TreeTables {
         }
 
         private boolean readEntry() {
-            tape.readWord();
-            if (tape.wordLength == 0) {
-                return tape.failHere(UNFIT);
-            }
-            int f = shape.find(open, tape.wordCode);
-            if (!shape.isField(f)) {
-                return tape.fail(PAPER_NAME_UNKNOWN, tape.wordStart);
-            }
-            if (there[f] && shape.marks[f] != MANY) {
-                return tape.fail(PAPER_NAME_AGAIN, tape.wordStart);
-            }
-            if (!tape.pass(':')) {
+            int f = readName();
+            if (!shape.isField(f) || !tape.pass(':')) {
                 return false;
             }
             int kind = kindBegunBy(tape.next());
@@ -718,7 +702,33 @@ public final class TreeTables {
             }
             int level = there[f] ? shape.again[f] : levelHere();
             there[f] = true;
-            return readValue(f, level);
+            switch (kind) {
+                case NUM:
+                    return readNumber(f, level);
+                case WORD:
+                    return readLetters(f, level);
+                default:
+                    return readOpen(f, level);
+            }
+        }
+
+        /** The FIELD of the open GROUP whose NAME comes next; NONE with a FAULT. */
+        private int readName() {
+            tape.readWord();
+            int f = shape.find(open, tape.wordCode);
+            if (tape.wordLength == 0) {
+                tape.failHere(UNFIT);
+                return NONE;
+            }
+            if (!shape.isField(f)) {
+                tape.fail(PAPER_NAME_UNKNOWN, tape.wordStart);
+                return NONE;
+            }
+            if (there[f] && shape.marks[f] != MANY) {
+                tape.fail(PAPER_NAME_AGAIN, tape.wordStart);
+                return NONE;
+            }
+            return f;
         }
 
         private static int kindBegunBy(int b) {
@@ -729,17 +739,6 @@ public final class TreeTables {
                 return WORD;
             }
             return b == '[' ? GROUP : NONE;
-        }
-
-        private boolean readValue(int f, int level) {
-            switch (shape.kinds[f]) {
-                case NUM:
-                    return readNumber(f, level);
-                case WORD:
-                    return readLetters(f, level);
-                default:
-                    return readOpen(f, level);
-            }
         }
 
         private boolean readNumber(int f, int level) {
@@ -842,21 +841,17 @@ public final class TreeTables {
                 return;
             }
             if (count >= levels.length) {
-                grow();
+                int size = count + count / 2 + ROWS_AT_FIRST;
+                levels = Arrays.copyOf(levels, size);
+                tolds = Arrays.copyOf(tolds, size);
+                paperOf = Arrays.copyOf(paperOf, size);
+                values = Arrays.copyOf(values, size);
             }
             levels[count] = level;
             tolds[count] = told;
             paperOf[count] = paper;
             values[count] = value;
             count++;
-        }
-
-        private void grow() {
-            int size = count + count / 2 + ROWS_AT_FIRST;
-            levels = Arrays.copyOf(levels, size);
-            tolds = Arrays.copyOf(tolds, size);
-            paperOf = Arrays.copyOf(paperOf, size);
-            values = Arrays.copyOf(values, size);
         }
 
         /** Takes a PAPER's ROWS out; the PAPERS behind it move up. */
