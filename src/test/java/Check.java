@@ -1,6 +1,8 @@
 /** What the tests share: texts onto the tape, texts back, and a count of answers that are not as due. */
 final class Check {
     private final String name;
+    private String sentence = "";
+    private int askedOfSentence = 1;
     private int asked = 0;
     private int wrong = 0;
 
@@ -8,14 +10,22 @@ final class Check {
         this.name = name;
     }
 
-    void due(String call, long got, long want) {
-        asked++;
-        if (got != want) {
+    /** The document's sentence that the checks from here on hold the class to. */
+    void sentence(String words) {
+        endSentence();
+        sentence = " [" + words + "]";
+        askedOfSentence = 0;
+    }
+
+    private void endSentence() {
+        if (askedOfSentence == 0) {
             wrong++;
-            if (wrong <= 20) {
-                System.out.println(name + ": " + call + " answered " + got + ", due is " + want);
-            }
+            System.out.println(name + ": no check of" + sentence);
         }
+    }
+
+    void due(String call, long got, long want) {
+        due(call, Long.toString(got), Long.toString(want));
     }
 
     void due(String call, boolean got, boolean want) {
@@ -24,9 +34,12 @@ final class Check {
 
     void due(String call, String got, String want) {
         asked++;
+        askedOfSentence++;
         if (!got.equals(want)) {
             wrong++;
-            System.out.println(name + ": " + call + " answered '" + got + "', due is '" + want + "'");
+            if (wrong <= 20) {
+                System.out.println(name + ": " + call + " answered '" + got + "', due is '" + want + "'" + sentence);
+            }
         }
     }
 
@@ -34,6 +47,21 @@ final class Check {
     void dueFault(String call, TreeTables x, int kind, int place) {
         due(call + ", then fault(0)", x.fault(0), kind);
         due(call + ", then fault(1)", x.fault(1), place);
+    }
+
+    void dueLeaves(String text, int leaves) {
+        TreeTables x = new TreeTables();
+        load(x, text);
+        due("shape() of '" + text + "'", x.shape(), leaves);
+        dueFault("shape() of '" + text + "'", x, 0, -1);
+    }
+
+    /** The text is a PAPER: then it is the only one. */
+    void duePaper(String shape, String text) {
+        TreeTables x = with(shape);
+        load(x, text);
+        due("paper() of '" + text + "'", x.paper(), 1);
+        dueFault("paper() of '" + text + "'", x, 0, -1);
     }
 
     void dueShapeFault(String text, int kind, int place) {
@@ -52,6 +80,7 @@ final class Check {
     }
 
     void finish() {
+        endSentence();
         System.out.println(name + ": " + asked + " answers, " + wrong + " of them not as due");
         if (wrong != 0 || asked == 0) {
             System.exit(1);
@@ -106,6 +135,19 @@ final class Check {
         StringBuilder out = new StringBuilder();
         for (int k = 0; k < 1000 && x.at(k) != TreeTables.NONE; k++) {
             out.append((char) x.at(k));
+        }
+        return out.toString();
+    }
+
+    /** All that can be asked but for the tape and the FAULT, as a text; no call that it makes changes anything. */
+    static String pictureOf(TreeTables x) {
+        StringBuilder out = new StringBuilder(latestText(x));
+        for (int c = 0; x.leaf(c, 0) != TreeTables.NONE; c++) {
+            out.append('\n').append(c).append(':');
+            for (int what = 0; what < 8; what++) {
+                out.append(' ').append(x.leaf(c, what));
+            }
+            out.append(" | ").append(tableOf(x, c));
         }
         return out.toString();
     }

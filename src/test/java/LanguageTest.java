@@ -16,6 +16,7 @@ public final class LanguageTest {
         String code = source.replaceAll("(?s)/\\*.*?\\*/", "").replaceAll("//[^\n]*", "");
         rulesOfTheSource(code);
         shortMethods(code);
+        new CallGraph("src/main/java/TreeTables.java").check(CHECK);
         face();
         CHECK.finish();
     }
@@ -78,6 +79,7 @@ public final class LanguageTest {
             int modifiers = inside.getModifiers();
             CHECK.due(inside.getName() + " is static", Modifier.isStatic(modifiers), true);
             CHECK.due(inside.getName() + " is public", Modifier.isPublic(modifiers), false);
+            CHECK.due(inside.getName() + " has few fields", inside.getDeclaredFields().length <= 20, true);
             for (Method method : inside.getDeclaredMethods()) {
                 CHECK.due(method.getName() + " has few parameters", method.getParameterCount() <= 7, true);
                 boolean hidden = Modifier.isPrivate(method.getModifiers());

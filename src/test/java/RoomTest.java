@@ -19,7 +19,7 @@ public final class RoomTest {
         fill(x);
         made = BEAN.getCurrentThreadAllocatedBytes() - ahead;
         System.out.println("RoomTest: 512 calls that lay the most ROWS take " + made + " bytes");
-        CHECK.due("they take 4,000,000 bytes at most", made <= 2000000, true);
+        CHECK.due("they take 4,000,000 bytes at most", made <= 4000000, true);
 
         ahead = BEAN.getCurrentThreadAllocatedBytes();
         for (int n = 0; n < 512; n++) {

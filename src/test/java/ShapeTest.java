@@ -13,18 +13,11 @@ public final class ShapeTest {
         CHECK.finish();
     }
 
-    private static void dueLeaves(String text, int leaves) {
-        TreeTables x = new TreeTables();
-        Check.load(x, text);
-        CHECK.due("shape() of '" + text + "'", x.shape(), leaves);
-        CHECK.dueFault("shape() of '" + text + "'", x, 0, -1);
-    }
-
     private static void blanks() {
-        dueLeaves("a num one;", 1);
-        dueLeaves("\n a\n\nnum  one\n;\n b word opt ; ", 2);
-        dueLeaves("a[b num one;]one;c word many;", 2);
-        dueLeaves(" a [ b num one ; c [ d word opt ; ] many ; ] one ; ", 2);
+        CHECK.dueLeaves("a num one;", 1);
+        CHECK.dueLeaves("\n a\n\nnum  one\n;\n b word opt ; ", 2);
+        CHECK.dueLeaves("a[b num one;]one;c word many;", 2);
+        CHECK.dueLeaves(" a [ b num one ; c [ d word opt ; ] many ; ] one ; ", 2);
         CHECK.dueShapeFault("a\tnum one;", 1, 1);
         CHECK.dueShapeFault("a num\rone;", 1, 5);
     }
@@ -74,10 +67,10 @@ public final class ShapeTest {
     }
 
     private static void names() {
-        dueLeaves("abcdefgh num one;", 1);
-        dueLeaves("z word many;", 1);
-        dueLeaves("zzzzzzzz word many; zzzzzzz num opt;", 2);
-        dueLeaves("nums num one; wor num one; ones num one; op num one; man num one;", 5);
+        CHECK.dueLeaves("abcdefgh num one;", 1);
+        CHECK.dueLeaves("z word many;", 1);
+        CHECK.dueLeaves("zzzzzzzz word many; zzzzzzz num opt;", 2);
+        CHECK.dueLeaves("nums num one; wor num one; ones num one; op num one; man num one;", 5);
         CHECK.dueShapeFault("abcdefghi num one;", 1, 8);
         CHECK.dueShapeFault("  abcdefghijklmnop", 1, 10);
         for (String word : new String[] {"num", "word", "one", "opt", "many"}) {
@@ -90,8 +83,8 @@ public final class ShapeTest {
         CHECK.dueShapeFault("a [b num one; b num one;] one;", 2, 14);
         CHECK.dueShapeFault("a [b num one;] one; c num one; a", 2, 31);
         CHECK.dueShapeFault("abcdefgh num one; abcdefghi num one;", 1, 26);
-        dueLeaves("a [a num one; b num one;] one; b [a num one;] one;", 3);
-        dueLeaves("a num one; aa num one;", 2);
+        CHECK.dueLeaves("a [a num one; b num one;] one; b [a num one;] one;", 3);
+        CHECK.dueLeaves("a num one; aa num one;", 2);
     }
 
     private static String leafTexts(int count) {
@@ -107,16 +100,16 @@ public final class ShapeTest {
         CHECK.dueShapeFault(" \n ", 3, 3);
         CHECK.dueShapeFault("a[]", 3, 2);
         CHECK.dueShapeFault("a num one;b [ \n] one;", 3, 15);
-        dueLeaves(leafTexts(12), 12);
+        CHECK.dueLeaves(leafTexts(12), 12);
         CHECK.dueShapeFault(leafTexts(13), 3, 122);
         CHECK.dueShapeFault(leafTexts(12) + "m  word", 3, 123);
         CHECK.dueShapeFault(leafTexts(12) + "m int", 1, 122);
         CHECK.dueShapeFault(leafTexts(12) + "m [n num", 3, 125);
         CHECK.dueShapeFault(leafTexts(12) + "m [", 1, 123);
-        dueLeaves("a[b[c[d[e num one;]one;]opt;]many;]one;", 1);
+        CHECK.dueLeaves("a[b[c[d[e num one;]one;]opt;]many;]one;", 1);
         CHECK.dueShapeFault("a[b[c[d[e[f num one;]one;]one;]one;]one;]one;", 3, 9);
         CHECK.dueShapeFault("a[b[c[d[e num one;]one;f[g num one;h[", 3, 36);
-        dueLeaves("a[b[c[d[e num one;]one;e[f word many;]opt;]one;]one;]one;", 2);
+        CHECK.dueLeaves("a[b[c[d[e num one;]one;e[f word many;]opt;]one;]one;]one;", 2);
     }
 
     private static void whatStays() {
