@@ -129,6 +129,9 @@ public final class AskBoundsTest {
         TreeTables y = Check.with("g[h[b num many;]opt;k[c num many;]one;]many;", "g:[h:[b:1;b:2;];k:[c:3;c:4;];];g:[k:[c:3;];];g:[h:[b:1;];k:[];];");
         CHECK.due("b 2, c 4: a many of one road alone does not count", y.both(0, 2, 1, 4), 1);
         CHECK.due("b 1, c 3", y.both(0, 1, 1, 3), 1);
+        TreeTables z = Check.with("g[o[a num many;b num many;]opt;]many;", "g:[o:[a:1;a:2;b:3;b:4;];];g:[];g:[o:[a:1;b:4;];];");
+        CHECK.due("a 1, b 4: an opt behind the many does not count", z.both(0, 1, 1, 4), 2);
+        CHECK.due("a 2, b 4", z.both(0, 2, 1, 4), 1);
     }
 
     private static void bothWithoutMany() {
@@ -143,6 +146,12 @@ public final class AskBoundsTest {
         CHECK.due("c 0: a ROW without a VALUE has none", x.both(0, 1, 2, 0), 0);
         CHECK.due("0 and 0", x.both(0, 0, 1, 0), 0);
         CHECK.due("no PAPERS", Check.with(SHAPE).both(0, 1, 2, 1), 0);
+        TreeTables y = Check.with("o[a num many;b num many;q[c num many;d num many;]opt;]opt;",
+            "o:[a:1;a:2;b:3;b:4;q:[c:5;c:6;d:7;d:8;];];", "o:[a:1;b:3;q:[];];", "o:[a:1;];", "");
+        CHECK.due("a 1, b 4: an opt on both roads is no many", y.both(0, 1, 1, 4), 1);
+        CHECK.due("a 1, b 3", y.both(0, 1, 1, 3), 2);
+        CHECK.due("c 5, d 8: nor are two", y.both(2, 5, 3, 8), 1);
+        CHECK.due("a 2, d 7", y.both(0, 2, 3, 7), 1);
     }
 
     private static void bothEachTime() {

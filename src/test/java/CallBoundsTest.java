@@ -447,6 +447,16 @@ public final class CallBoundsTest {
             CHECK.due("bit " + bit, Check.textOf(x, 0, 1 << bit), due);
         }
         CHECK.due("the first and the last", Check.textOf(x, 0, 0x801), "a:1;l:12;");
+        CHECK.sentence("11: TEXT of PAPER i (and of none beside it)");
+        String[] papers = {"a:1;a:2;w:x;g:[b:3;];", "a:4;a:5;w:y;g:[b:6;];", "a:7;w:z;g:[b:8;];"};
+        String[] ofA = {"a:1;a:2;", "a:4;a:5;", "a:7;"};
+        TreeTables y = Check.with(SHAPE, papers);
+        for (int i = 0; i < 3; i++) {
+            CHECK.due("text(" + i + ", -1)", Check.textOf(y, i, -1), papers[i]);
+            CHECK.due("text(" + i + ", 1)", Check.textOf(y, i, 1), ofA[i]);
+            CHECK.due("text(" + i + ", 2)", Check.textOf(y, i, 2), "w:" + "xyz".charAt(i) + ";");
+            CHECK.due("text(" + i + ", 4)", Check.textOf(y, i, 4), "g:[b:" + "368".charAt(i) + ";];");
+        }
     }
 
     private static void textNone() {

@@ -87,6 +87,18 @@ final class Check {
         }
     }
 
+    static boolean isBlank(char b) {
+        return b == 10 || b == 32;
+    }
+
+    static boolean isLetter(char b) {
+        return b >= 'a' && b <= 'z';
+    }
+
+    static boolean isDigit(char b) {
+        return b >= '0' && b <= '9';
+    }
+
     /** Lays a text on an empty tape; its characters are bytes. */
     static void load(TreeTables x, String text) {
         for (int from = 0; from < text.length(); from += 20) {

@@ -29,18 +29,6 @@ public final class PaperBoundsTest {
         CHECK.duePaperFault(SHAPE, text, kind, place);
     }
 
-    private static boolean isBlank(char b) {
-        return b == 10 || b == 32;
-    }
-
-    private static boolean isLetter(char b) {
-        return b >= 'a' && b <= 'z';
-    }
-
-    private static boolean isDigit(char b) {
-        return b >= '0' && b <= '9';
-    }
-
     private static void blanks() {
         CHECK.sentence("II: A PAPER's TEXT, likewise: blanks (10, 32) between where one likes");
         whole("n:1;w:a;g:[o:2;q:[r:3;];];");
@@ -56,16 +44,16 @@ public final class PaperBoundsTest {
     private static void anyByteInAnyPlace() {
         CHECK.sentence("II: FAULT 1 as above: the first byte with which no PAPER goes on");
         for (char b = 0; b < 256; b++) {
-            boolean blank = isBlank(b);
-            boolean letter = isLetter(b);
-            boolean number = isDigit(b) || b == '-';
+            boolean blank = Check.isBlank(b);
+            boolean letter = Check.isLetter(b);
+            boolean number = Check.isDigit(b) || b == '-';
             dueByte(b + "w:a;", blank ? 0 : letter ? 2 : 1, 0);
             dueByte("w" + b + ":a;", blank ? 0 : letter ? 2 : 1, letter ? 0 : b == ':' ? 2 : 1);
             dueByte("w:" + b + "a;", blank || letter ? 0 : number || b == '[' ? 5 : 1, 2);
             dueByte("w:a" + b + ";", blank || letter ? 0 : 1, b == ';' ? 4 : 3);
             dueByte("n:" + b + "5;", blank || number ? 0 : letter || b == '[' ? 5 : 1, 2);
-            dueByte("n:5" + b + ";", blank || isDigit(b) ? 0 : 1, b == ';' ? 4 : 3);
-            dueByte("n:-" + b + "5;", isDigit(b) ? 0 : 1, 3);
+            dueByte("n:5" + b + ";", blank || Check.isDigit(b) ? 0 : 1, b == ';' ? 4 : 3);
+            dueByte("n:-" + b + "5;", Check.isDigit(b) ? 0 : 1, 3);
             dueByte("g:" + b + "o:1;];", b == '[' ? 0 : blank || letter || number ? 5 : 1, blank ? 3 : 2);
             dueByte("g:[o:1;" + b + "];", blank ? 0 : isNameIn(b, "pq") ? 1 : b == 'o' ? 3 : letter ? 2 : 1,
                 b == ']' || isNameIn(b, "pq") ? 8 : 7);

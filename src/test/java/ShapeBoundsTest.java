@@ -31,14 +31,6 @@ public final class ShapeBoundsTest {
         CHECK.dueShapeFault(text, kind, place);
     }
 
-    private static boolean isBlank(char b) {
-        return b == 10 || b == 32;
-    }
-
-    private static boolean isLetter(char b) {
-        return b >= 'a' && b <= 'z';
-    }
-
     private static void blanks() {
         CHECK.sentence("I: with blanks (10, 32) between where one likes");
         whole("a num one;", 1);
@@ -55,8 +47,8 @@ public final class ShapeBoundsTest {
     private static void anyByteInAnyPlace() {
         CHECK.sentence("I: FAULT 1 the first byte with which no SHAPE goes on");
         for (char b = 0; b < 256; b++) {
-            boolean blank = isBlank(b);
-            boolean letter = isLetter(b);
+            boolean blank = Check.isBlank(b);
+            boolean letter = Check.isLetter(b);
             dueByte(b + "a num one;", blank || letter ? -1 : 0);
             dueByte("a" + b + "num one;", blank ? -1 : letter ? 6 : b == '[' ? 2 : 1);
             dueByte("a num" + b + "one;", blank ? -1 : letter ? 2 : 5);

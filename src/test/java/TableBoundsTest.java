@@ -176,6 +176,10 @@ public final class TableBoundsTest {
         CHECK.due("its bytes", Check.latestText(x), text);
         CHECK.due("at(399)", x.at(399), ';');
         CHECK.due("at(400)", x.at(400), -1);
+        String values = "a:1;".repeat(100);
+        CHECK.due("100 of a many LEAF", Check.textOf(Check.with("a num many;", values), 0, 1), values);
+        String groups = "g:[];".repeat(80);
+        CHECK.due("80 of a many GROUP", Check.textOf(Check.with("g[a num opt;]many;", groups), 0, 1), groups);
     }
 
     private static void size(String shape, int due, String... papers) {
