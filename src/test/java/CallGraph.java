@@ -1,11 +1,7 @@
 import com.sun.source.tree.MethodInvocationTree;
 import com.sun.source.tree.MethodTree;
 import com.sun.source.tree.NewClassTree;
-import com.sun.source.tree.CompilationUnitTree;
-import com.sun.source.util.JavacTask;
 import com.sun.source.util.TreePathScanner;
-import com.sun.source.util.Trees;
-import java.nio.file.Path;
 import java.util.ArrayList;
 import java.util.LinkedHashMap;
 import java.util.LinkedHashSet;
@@ -14,10 +10,8 @@ import java.util.Map;
 import java.util.Set;
 import javax.lang.model.element.Element;
 import javax.lang.model.element.Modifier;
-import javax.tools.JavaCompiler;
-import javax.tools.ToolProvider;
 
-/** Which method calls which, as the compiler sees it: rule 11's calls of eight deep, rule 8's recursion, rule 4's library. */
+/** Which method calls which: rule 4's library, rule 8's recursion, rule 11's calls of eight deep. */
 final class CallGraph {
     private static final int DEEPEST = 8;
     /** The only methods that call one another round and round: down the GROUPS, with the depth as an argument. */
@@ -27,29 +21,20 @@ final class CallGraph {
 
     private final Map<Element, Set<Element>> calls = new LinkedHashMap<>();
 
-    CallGraph(String file) throws Exception {
-        JavaCompiler compiler = ToolProvider.getSystemJavaCompiler();
-        var files = compiler.getStandardFileManager(null, null, null);
-        JavacTask task = (JavacTask) compiler.getTask(null, files, null, List.of("-proc:none"), null, files.getJavaFileObjects(Path.of(file)));
-        Iterable<? extends CompilationUnitTree> units = task.parse();
-        task.analyze();
-        Reader reader = new Reader(Trees.instance(task));
-        for (CompilationUnitTree unit : units) {
-            reader.scan(unit, null);
-        }
-        files.close();
+    CallGraph(Source source) {
+        new Reader(source).scan(source.unit, null);
     }
 
     private final class Reader extends TreePathScanner<Void, Element> {
-        private final Trees trees;
+        private final Source source;
 
-        Reader(Trees trees) {
-            this.trees = trees;
+        Reader(Source source) {
+            this.source = source;
         }
 
         @Override
         public Void visitMethod(MethodTree method, Element outer) {
-            Element here = trees.getElement(getCurrentPath());
+            Element here = source.trees.getElement(getCurrentPath());
             calls.putIfAbsent(here, new LinkedHashSet<>());
             return super.visitMethod(method, here);
         }
@@ -68,28 +53,34 @@ final class CallGraph {
 
         private void note(Element from) {
             if (from != null) {
-                calls.get(from).add(trees.getElement(getCurrentPath()));
+                calls.get(from).add(source.trees.getElement(getCurrentPath()));
             }
         }
     }
 
     void check(Check check) {
+        check.sentence("rule 4: The library: only what stands here");
         check.due("methods were found", calls.size() > 50, true);
-        for (Map.Entry<Element, Set<Element>> entry : calls.entrySet()) {
-            Element method = entry.getKey();
+        calls.forEach((method, called) -> called.forEach(one -> checkLibrary(check, method, one)));
+        check.sentence("rule 8: Recursion: the depth is carried as an argument");
+        for (Element method : calls.keySet()) {
+            String name = method.getSimpleName().toString();
+            check.due(name + " calls itself", reaches(method, method, new LinkedHashSet<>()), MAY_RECUR.contains(name));
+        }
+        check.sentence("rule 11: calls that are no recursion go at most eight deep");
+        for (Element method : calls.keySet()) {
             if (method.getModifiers().contains(Modifier.PUBLIC)) {
                 List<Element> deepest = new ArrayList<>();
                 walk(method, new ArrayList<>(), deepest);
                 check.due(deepest + " is at most eight deep", deepest.size() <= DEEPEST, true);
             }
-            String name = method.getSimpleName().toString();
-            check.due(name + " calls itself", reaches(method, method, new LinkedHashSet<>()), MAY_RECUR.contains(name));
-            for (Element called : entry.getValue()) {
-                String whole = called.getEnclosingElement() + "." + called.getSimpleName();
-                check.due(name + " may call " + whole, calls.containsKey(called) || MAY_BE_CALLED.contains(whole)
-                    || whole.startsWith("TreeTables."), true);
-            }
         }
+    }
+
+    private void checkLibrary(Check check, Element method, Element called) {
+        String whole = called.getEnclosingElement() + "." + called.getSimpleName();
+        boolean isOwn = calls.containsKey(called) || whole.startsWith("TreeTables.");
+        check.due(method.getSimpleName() + " may call " + whole, isOwn || MAY_BE_CALLED.contains(whole), true);
     }
 
     /** Keeps in deepest the longest chain that goes through no method twice. */
